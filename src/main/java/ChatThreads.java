@@ -46,13 +46,13 @@ public final class ChatThreads {
     private static final int BAD_CORRECTION = 3;
     private static final int TOO_MANY = 4;
 
-    private final Log log = new Log();
+    private final Threads threads = new Threads();
+    private final Log log = threads.log;
+    private boolean threadsAreOld = true;
     private final History history = new History();
     private final Text text = new Text();
-    private final Threads threads = new Threads(log);
-    private boolean threadsAreOld = true;
-    private final Log otherLog = new Log();
-    private final Threads otherThreads = new Threads(otherLog);
+    private final Threads otherThreads = new Threads();
+    private final Log otherLog = otherThreads.log;
 
     public ChatThreads() {
     }
@@ -365,8 +365,8 @@ public final class ChatThreads {
         otherLog.copyFrom(log);
         otherThreads.rateAll();
         for (int threshold = 0; threshold <= GREATEST_VALUES[THRESHOLD]; threshold++) {
-            // a threshold just above no score shuts out no more than the one before it
-            if (threshold == 0 || otherThreads.someScoreIs(threshold - 1)) {
+            // a threshold just above no score that matters shuts out no more than the one before it
+            if (threshold == 0 || otherThreads.scoreMatters(threshold - 1)) {
                 otherLog.settings[THRESHOLD] = threshold;
                 otherThreads.follow();
                 if (otherThreads.numbers[line] != otherThreads.numbers[other]) {
@@ -431,6 +431,10 @@ public final class ChatThreads {
 
     private static boolean isSet(int bits) {
         return bits >= 0 && bits <= MAX_SET;
+    }
+
+    private static boolean isIn(int bits, int number) {
+        return (bits >> number & 1) == 1;
     }
 
     private static boolean isSettingValue(int what, int value) {
@@ -536,10 +540,15 @@ public final class ChatThreads {
 
         int personsNamedIn(int line) {
             int persons = 0;
-            for (int person = 0; person < PERSONS; person++) {
-                int name = nameAt(person, times[line]);
-                if (name != NONE && (names[line] >> name & 1) == 1) {
-                    persons |= 1 << person;
+            int seen = 0;
+            for (int take = takeCount - 1; take >= 0; take--) {
+                int person = 1 << takers[take];
+                // a person's last name by then is the one that counts
+                if (takeTimes[take] <= times[line] && (seen & person) == 0) {
+                    seen |= person;
+                    if (isIn(names[line], takenNames[take])) {
+                        persons |= person;
+                    }
                 }
             }
             return persons;
@@ -690,11 +699,15 @@ public final class ChatThreads {
 
     /** What follows from a log: the order, scores, answers and threads of its lines. */
     private static final class Threads {
-        private final Log log;
+        final Log log = new Log();
         final int[] order = new int[MAX_LINES];
         final int[] places = new int[MAX_LINES];
         final int[] spokenTo = new int[MAX_LINES];
         private final int[] scores = new int[MAX_LINES * MAX_LINES];
+        private final int[] fixes = new int[MAX_LINES];
+        private final int[] choices = new int[MAX_LINES];
+        private final int[] bests = new int[MAX_LINES];
+        private final int[] rivals = new int[MAX_LINES];
         final int[] answered = new int[MAX_LINES];
         final int[] joins = new int[MAX_LINES];
         private final int[] rows = new int[MAX_LINES];
@@ -704,20 +717,21 @@ public final class ChatThreads {
         final int[] lengths = new int[MAX_LINES];
         final int[] lastLines = new int[MAX_LINES];
 
-        Threads(Log log) {
-            this.log = log;
-        }
-
-        /** Finds the order and the scores anew, which no threshold changes. */
+        /** Finds anew what no threshold changes. */
         void rateAll() {
             putInOrder();
             for (int line = 0; line < log.lineCount; line++) {
                 spokenTo[line] = log.personsNamedIn(line);
             }
             for (int at = 0; at < log.lineCount; at++) {
+                int line = order[at];
                 for (int before = 0; before < at; before++) {
-                    rate(order[at], order[before]);
+                    rate(line, order[before]);
                 }
+                fixes[line] = log.countingFix(line);
+                choices[line] = choicesFor(line);
+                bests[line] = fixes[line] == NONE ? bestOf(choices[line], line) : NONE;
+                rivals[line] = rivalsFor(line);
             }
         }
 
@@ -755,17 +769,76 @@ public final class ChatThreads {
         }
 
         private boolean speaksTo(int line, int person) {
-            return (spokenTo[line] >> person & 1) == 1;
+            return isIn(spokenTo[line], person);
         }
 
         int scoreFor(int line, int earlier) {
             return scores[line * MAX_LINES + earlier];
         }
 
-        boolean someScoreIs(int value) {
-            for (int at = 0; at < log.lineCount; at++) {
-                for (int before = 0; before < at; before++) {
-                    if (scoreFor(order[at], order[before]) == value) {
+        int gapOf(int line, int earlier) {
+            return log.times[line] - log.times[earlier];
+        }
+
+        /** The set of earlier lines that the line might answer if the threshold let it. */
+        private int choicesFor(int line) {
+            int found = 0;
+            for (int at = 0; at < places[line]; at++) {
+                if (isInWindow(line, order[at])) {
+                    found |= 1 << order[at];
+                }
+            }
+            for (int fix = 0; fix < log.fixCount; fix++) {
+                if (log.fixKinds[fix] == ANSWERS_NOT && log.fixLines[fix] == line) {
+                    found &= ~(1 << log.fixEarlier[fix]);
+                }
+            }
+            return found;
+        }
+
+        private boolean isInWindow(int line, int earlier) {
+            return gapOf(line, earlier) <= log.settings[WINDOW];
+        }
+
+        /** Of a set of earlier lines the one with the greatest score, the latest of several. */
+        private int bestOf(int set, int line) {
+            int best = NONE;
+            for (int at = 0; at < places[line]; at++) {
+                int earlier = order[at];
+                if (isIn(set, earlier)
+                    && (best == NONE || scoreFor(line, earlier) >= scoreFor(line, best))) {
+                    best = earlier;
+                }
+            }
+            return best;
+        }
+
+        /** The set of lines whose threads a line joins with that of its best one. */
+        private int rivalsFor(int line) {
+            int best = bests[line];
+            if (best == NONE || !speaksTo(line, log.writers[best])) {
+                return 0;
+            }
+            int least = scoreFor(line, best) - log.settings[MARGIN];
+            int found = 0;
+            for (int at = 0; at < places[line]; at++) {
+                int other = order[at];
+                if (isIn(choices[line], other) && scoreFor(line, other) >= least
+                    && speaksTo(line, log.writers[other]) && log.writers[other] != log.writers[best]) {
+                    found |= 1 << other;
+                }
+            }
+            return found;
+        }
+
+        /** Tells whether the score is one at which a line answers or joins, if the threshold lets it. */
+        boolean scoreMatters(int score) {
+            for (int line = 0; line < log.lineCount; line++) {
+                if (bests[line] != NONE && scoreFor(line, bests[line]) == score) {
+                    return true;
+                }
+                for (int other = 0; rivals[line] != 0 && other < log.lineCount; other++) {
+                    if (isIn(rivals[line], other) && scoreFor(line, other) == score) {
                         return true;
                     }
                 }
@@ -773,11 +846,7 @@ public final class ChatThreads {
             return false;
         }
 
-        int gapOf(int line, int earlier) {
-            return log.times[line] - log.times[earlier];
-        }
-
-        /** Finds answers and threads anew; the order and the scores stay. */
+        /** Finds answers and threads anew by the threshold. */
         void follow() {
             for (int at = 0; at < log.lineCount; at++) {
                 addToThread(order[at]);
@@ -803,8 +872,7 @@ public final class ChatThreads {
         }
 
         private void addToThread(int line) {
-            int fix = log.countingFix(line);
-            int answer = fix == NONE ? bestFor(line, NONE) : log.fixEarlier[fix];
+            int answer = answerOf(line);
             answered[line] = answer;
             joins[line] = 0;
             if (answer == NONE) {
@@ -814,50 +882,32 @@ public final class ChatThreads {
             }
             rows[line] = rows[answer] + 1;
             firstPlaces[line] = firstPlaces[answer];
-            if (fix == NONE) {
-                joinOthers(line, answer);
+            if (rivals[line] != 0) {
+                joinRivals(line);
             }
         }
 
-        /** The answer by scores, without regard to one correction of the kind 2. */
-        private int bestFor(int line, int ignoredFix) {
-            int best = NONE;
-            for (int at = 0; at < places[line]; at++) {
-                int earlier = order[at];
-                if (mightAnswer(line, earlier, ignoredFix)
-                    && (best == NONE || scoreFor(line, earlier) >= scoreFor(line, best))) {
-                    best = earlier;
-                }
+        private int answerOf(int line) {
+            if (fixes[line] != NONE) {
+                return log.fixEarlier[fixes[line]];
             }
-            return best;
+            return isPassed(line, bests[line]) ? bests[line] : NONE;
         }
 
-        private boolean mightAnswer(int line, int earlier, int ignoredFix) {
-            if (gapOf(line, earlier) > log.settings[WINDOW]
-                || scoreFor(line, earlier) < log.settings[THRESHOLD]) {
-                return false;
-            }
-            int fix = log.fixLike(ANSWERS_NOT, line, earlier);
-            return fix == NONE || fix == ignoredFix;
+        private boolean isPassed(int line, int earlier) {
+            return earlier != NONE && scoreFor(line, earlier) >= log.settings[THRESHOLD];
         }
 
-        /** In whatever sequence the others are joined, the threads that are joined are the same. */
-        private void joinOthers(int line, int answer) {
+        /** In whatever sequence the rivals are gone through, the threads that are joined are the same. */
+        private void joinRivals(int line) {
             for (int at = 0; at < places[line]; at++) {
                 int other = order[at];
-                if (firstPlaces[other] != firstPlaces[line] && asMuchMeant(line, answer, other)
-                    && mightAnswer(line, other, NONE)) {
+                if (isIn(rivals[line], other) && firstPlaces[other] != firstPlaces[line]
+                    && isPassed(line, other)) {
                     join(firstPlaces[line], firstPlaces[other], places[line]);
                     joins[line]++;
                 }
             }
-        }
-
-        private boolean asMuchMeant(int line, int answer, int other) {
-            return log.writers[answer] != log.writers[other]
-                && speaksTo(line, log.writers[answer])
-                && speaksTo(line, log.writers[other])
-                && scoreFor(line, other) >= scoreFor(line, answer) - log.settings[MARGIN];
         }
 
         private void join(int first, int second, int lastPlace) {
@@ -874,17 +924,16 @@ public final class ChatThreads {
             if (!log.isEarlier(other, line)) {
                 return 1;
             }
-            int fix = log.countingFix(line);
-            if (fix != NONE) {
-                return log.fixEarlier[fix] == other ? 0 : 2;
+            if (fixes[line] != NONE) {
+                return answered[line] == other ? 0 : 2;
             }
             if (log.fixLike(ANSWERS_NOT, line, other) != NONE) {
                 return 3;
             }
-            if (gapOf(line, other) > log.settings[WINDOW]) {
+            if (!isInWindow(line, other)) {
                 return 4;
             }
-            if (scoreFor(line, other) < log.settings[THRESHOLD]) {
+            if (!isPassed(line, other)) {
                 return 5;
             }
             return answered[line] == other ? 0 : 6;
@@ -892,11 +941,12 @@ public final class ChatThreads {
 
         boolean fixMatters(int fix) {
             int line = log.fixLines[fix];
-            int counting = log.countingFix(line);
             if (log.fixKinds[fix] != ANSWERS_NOT) {
-                return counting == fix;
+                return fixes[line] == fix;
             }
-            return counting == NONE && bestFor(line, fix) == log.fixEarlier[fix];
+            int earlier = log.fixEarlier[fix];
+            return fixes[line] == NONE && isInWindow(line, earlier) && isPassed(line, earlier)
+                && bestOf(choices[line] | 1 << earlier, line) == earlier;
         }
 
         int answersTo(int line) {
@@ -1073,17 +1123,13 @@ public final class ChatThreads {
         }
 
         private int numbersDue() {
-            switch (letter) {
-                case 'l':
-                    return 4;
-                case 'b':
-                    return 1;
-                case 'a':
-                case 'n':
-                    return 2;
-                default:
-                    return 0;
+            if (letter == 'l') {
+                return 4;
             }
+            if (letter == 'b') {
+                return 1;
+            }
+            return letter == 'a' || letter == 'n' ? 2 : 0;
         }
 
         private int readNumber() {

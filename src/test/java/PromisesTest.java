@@ -38,6 +38,7 @@ public final class PromisesTest {
         promise23ThreadsWith();
         promise24ThreadsWithout();
         promise25Parting();
+        promise25PartingOfJoinedThreads();
         promise26And27TypeAndClearText();
         promise28FaultOfForm();
         promise28FaultOfNumbers();
@@ -592,6 +593,13 @@ public final class PromisesTest {
         due(y.correct(1, 1, 0), NOT_POSSIBLE);
         due(y.correct(1, 0, 1), 1);
         due(y.lineOf(0, 6), 1);
+        // the greatest number of corrections is no edge for what follows from them
+        due(x.threadsWithout(0), 2);
+        due(x.lineOf(3, 6), 2);
+        due(x.withdraw(11), 11);
+        due(x.lineOf(3, 6), 1);
+        x.undo();
+        due(x.drop(0), 6);
     }
 
     private static void promise15Withdraw() {
@@ -690,6 +698,18 @@ public final class PromisesTest {
         int[] third = {1, 2048, 6, 6, 0, 0, 1};
         for (int what = 0; what < 7; what++) {
             due(x.threadOf(2, what), third[what]);
+        }
+        // the first line in order is line 0, and the greatest gap is behind it
+        ChatThreads y = fourLines();
+        y.line(103, 0, 0, 0);
+        y.drop(3);
+        y.drop(2);
+        y.drop(1);
+        y.line(105, 0, 0, 0);
+        y.set(5, 100);
+        int[] only = {3, 1, 0, 2, 105, 103, 3};
+        for (int what = 0; what < 7; what++) {
+            due(y.threadOf(0, what), only[what]);
         }
     }
 
@@ -921,6 +941,34 @@ public final class PromisesTest {
         due(y.parting(0, 1), 200);
     }
 
+    private static void promise25PartingOfJoinedThreads() {
+        // line 2 answers line 1 (50) and joins the thread of line 0 (40)
+        ChatThreads x = named();
+        x.set(7, 10);
+        x.line(0, 0, 0, 0);
+        x.line(0, 1, 0, 1);
+        x.line(10, 3, 3, 1);
+        due(x.parting(0, 1), 41);
+        due(x.parting(0, 2), 41);
+        due(x.parting(1, 2), 51);
+        // without the joining line 1 answers line 0 by a score of 0
+        x.set(7, 9);
+        due(x.parting(0, 1), 1);
+        // line 0 is the latest, it answers line 2 (38) and joins the thread of line 1 (37)
+        ChatThreads y = named();
+        y.line(90, 5, 7, 0);
+        y.line(0, 0, 0, 0);
+        y.line(10, 1, 0, 0);
+        due(y.parting(0, 2), 39);
+        due(y.parting(2, 1), 38);
+        due(y.parting(1, 0), 38);
+        ChatThreads z = meeting();
+        due(z.parting(0, 1), 41);
+        z.correct(1, 3, 1);
+        due(z.parting(0, 1), 1);
+        due(z.parting(1, 3), NOT_FOUND);
+    }
+
     private static void promise26And27TypeAndClearText() {
         ChatThreads x = new ChatThreads();
         due(x.clearText(), 0);
@@ -964,6 +1012,10 @@ public final class PromisesTest {
             due(faultOf(x, "l0,0,0,0;" + text), 91);
         }
         due(faultOf(x, "l0,0,0,0;;"), 91);
+        // a text of 80 characters that ends within a number, and one that ends within an entry
+        due(faultOf(x, "l0,0,0,0;".repeat(8) + "l0,0,0,0"), 721);
+        due(faultOf(x, "l0,0,0,0;".repeat(8) + "b000000,"), 721);
+        due(faultOf(x, "l0,0,0,0;".repeat(8) + "b000000;"), NOT_FOUND);
         due(faultOf(x, "l0,0,0,0;l0,0,0,0;l0,0,0,0;x"), 271);
         due(faultOf(x, "l000000,000000,000000,000000;"), NOT_FOUND);
         due(faultOf(x, "l0,0,0,0;b0;"), NOT_FOUND);
@@ -1094,8 +1146,11 @@ public final class PromisesTest {
         due(x.lineOf(2, 6), NOT_FOUND);
         x.set(1, 20);
         due(x.lineOf(2, 6), 1);
+        // a correction about another line says nothing of this one
+        x.correct(2, 1, 0);
         x.correct(2, 2, 1);
         due(x.lineOf(2, 6), 0);
+        x.withdraw(0);
         x.correct(1, 2, 1);
         due(x.lineOf(2, 6), 1);
         x.set(0, 0);
