@@ -2,101 +2,9 @@
  * For each promise of the document its ordinary inputs, the edges that the document names and
  * wrong inputs. The answers that are due were worked out by hand from the document.
  */
-public final class PromisesTest {
-    private static final int INVALID = -1;
-    private static final int NOT_POSSIBLE = -2;
-    private static final int LIMIT = -3;
-    private static final int NOT_FOUND = -4;
-
-    private static int wrong = 0;
-
-    public static void main(String[] args) {
-        promise1NewObject();
-        promise2Takes();
-        promise3NameOf();
-        promise4WhoHas();
-        promise5Line();
-        promise6Drop();
-        promise7LineOf();
-        promise8InOrder();
-        promise9Score();
-        promise9ScoreOfWritersNames();
-        promise10Reason();
-        promise10ReasonByCorrections();
-        promise11Set();
-        promise12Count();
-        promise13Undo();
-        promise14Correct();
-        promise15Withdraw();
-        promise16Correction();
-        promise17ThreadOf();
-        promise17Rows();
-        promise18LineIn();
-        promise19Busiest();
-        promise20And21AnswersAndPartner();
-        promise22Awake();
-        promise23ThreadsWith();
-        promise24ThreadsWithout();
-        promise25Parting();
-        promise25PartingOfJoinedThreads();
-        promise26And27TypeAndClearText();
-        promise28FaultOfForm();
-        promise28FaultOfNumbers();
-        promise28FaultOfCorrections();
-        promise28FaultOfLimits();
-        promise29Load();
-        answersByScores();
-        threadsThatAreJoined();
-        whatJoinsNoThreads();
-        whatIsGoneLeavesNothing();
-        lineZeroIsALineLikeOthers();
-        wildArguments();
-        System.out.println(wrong == 0 ? "promises: all answers are as due" : wrong + " answers are not as due");
-        if (wrong != 0) {
-            System.exit(1);
-        }
-    }
-
-    private static void due(int got, int want) {
-        if (got != want) {
-            wrong++;
-            StackTraceElement place = Thread.currentThread().getStackTrace()[2];
-            System.out.println(place.getMethodName() + ", row " + place.getLineNumber() + ": answered " + got
-                + ", due is " + want);
-        }
-    }
-
-    private static void enter(ChatThreads x, String text) {
-        for (char sign : text.toCharArray()) {
-            x.type(sign);
-        }
-    }
-
-    /** The fault of a text as its position times 10 and its reason, or NOT_FOUND. */
-    private static int faultOf(ChatThreads x, String text) {
-        x.clearText();
-        enter(x, text);
-        int position = x.fault(0);
-        int reason = x.fault(1);
-        return position < 0 || reason < 0 ? Math.max(position, reason) : position * 10 + reason;
-    }
-
-    /** Persons 0 to 11 have the names of their numbers from time 0 on. */
-    private static ChatThreads named() {
-        ChatThreads x = new ChatThreads();
-        for (int person = 0; person < 12; person++) {
-            x.takes(person, person, 0);
-        }
-        return x;
-    }
-
-    /** Lines 0 to 3 at times 0 to 3 by persons 0 to 3, none of which answers another one. */
-    private static ChatThreads fourLines() {
-        ChatThreads x = new ChatThreads();
-        for (int i = 0; i < 4; i++) {
-            x.line(i, i, 0, 0);
-        }
-        return x;
+public final class PromisesTest extends Checks {
+    public static void main(String[] args) throws ReflectiveOperationException {
+        runTestsOf(PromisesTest.class);
     }
 
     private static void promise1NewObject() {
@@ -1165,16 +1073,6 @@ public final class PromisesTest {
         y.line(59, 2, 0, 0);
         due(y.lineOf(1, 6), 0);
         due(y.lineOf(2, 6), NOT_FOUND);
-    }
-
-    /** Lines 0 to 2 by persons 0 to 2 at time 0; line 3 speaks to all of these. */
-    private static ChatThreads meeting() {
-        ChatThreads x = named();
-        x.line(0, 0, 0, 0);
-        x.line(0, 1, 0, 0);
-        x.line(0, 2, 0, 0);
-        x.line(10, 3, 7, 0);
-        return x;
     }
 
     private static void threadsThatAreJoined() {
