@@ -13,7 +13,7 @@ abstract class Checks {
     static final int LIMIT = -3;
     static final int NOT_FOUND = -4;
 
-    private static final int CALLS_PER_OBJECT = 400;
+    private static final int CALLS_PER_OBJECT = 300;
     private static final int[] SOME_TIMES = {0, 10, 50, 500, 100000};
     private static final List<ToIntFunction<ChatThreads>> QUESTIONS = questions();
 

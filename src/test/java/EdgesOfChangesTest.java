@@ -142,6 +142,43 @@ public final class EdgesOfChangesTest extends Checks {
         });
     }
 
+    /** What was asked ahead of a change says nothing of what is answered after it. */
+    private static void answersFollowEachChange() {
+        followed(x -> x.takes(3, 0, 0));
+        followed(x -> x.line(5, 4, 7, 0));
+        followed(x -> x.line(0, 4, 7, 0));
+        followed(x -> x.drop(0));
+        followed(x -> x.drop(3));
+        followed(x -> x.correct(0, 3, 0));
+        followed(x -> x.withdraw(0));
+        followed(x -> x.set(1, 41));
+        followed(x -> x.undo());
+        followed(x -> x.load());
+        followed(x -> x.type('x'));
+    }
+
+    private static void followed(Consumer<ChatThreads> change) {
+        due(sameNow(() -> {
+            ChatThreads x = corrected();
+            for (int n = 0; n < 40; n++) {
+                x.lineOf(n / 10, n % 10);
+                x.correction(0, n % 4);
+                x.threadOf(n / 10, n % 7);
+                x.threadsWithout(n % 4);
+            }
+            x.fault(0);
+            change.accept(x);
+            return x;
+        }, () -> done(EdgesOfChangesTest::corrected, change)), 0);
+    }
+
+    private static ChatThreads corrected() {
+        ChatThreads x = meeting();
+        x.correct(2, 3, 1);
+        enter(x, "l0,9,1,0;a4,2;");
+        return x;
+    }
+
     // ---- the history
 
     /** Settings of the window 1, 2 and so on, one by one. */

@@ -85,19 +85,36 @@ public final class EdgesOfLinesTest extends Checks {
     /** "if one is dropped, the numbers of the later ones decrease by 1" */
     private static void theNumbersBehindADroppedLineDecrease() {
         for (int dropped = 0; dropped < 4; dropped++) {
-            ChatThreads x = fourLines();
+            ChatThreads x = new ChatThreads();
+            for (int n = 0; n < 4; n++) {
+                x.line(n, n + 1, n + 2, 8 << n);
+            }
             due(x.drop(dropped), 0);
             due(x.count(0), 3);
             for (int n = 0; n < 3; n++) {
                 int was = n < dropped ? n : n + 1;
-                due(x.lineOf(n, 0), was);
-                due(x.lineOf(n, 1), was);
-                due(x.lineOf(n, 4), n);
+                dueEach(x, numbered(n), was, was + 1, was + 2, 8 << was, n, n, NOT_FOUND, 0, 0, 0);
                 due(x.inOrder(n), n);
             }
             due(x.lineOf(3, 0), INVALID);
             due(x.inOrder(3), NOT_FOUND);
         }
+    }
+
+    private static Asked numbered(int line) {
+        return (x, what) -> x.lineOf(line, what);
+    }
+
+    private static void aDropGivesTheOthersTheirPlacesAnew() {
+        ChatThreads x = new ChatThreads();
+        x.line(20, 0, 0, 0);
+        x.line(10, 1, 0, 0);
+        x.line(30, 2, 0, 0);
+        dueEach(x, (y, n) -> y.lineOf(n, 4), 1, 0, 2);
+        x.drop(1);
+        dueEach(x, (y, n) -> y.lineOf(n, 4), 0, 1);
+        x.undo();
+        dueEach(x, (y, n) -> y.lineOf(n, 4), 1, 0, 2);
     }
 
     private static void theFirstAndLastOfThirtyLinesCanBeDropped() {
@@ -226,6 +243,16 @@ public final class EdgesOfLinesTest extends Checks {
         x.line(0, 0, 30720, 0);
         x.line(0, 0, 65535, 0);
         dueEach(x, (y, n) -> y.lineOf(n, 9), 0, 1, 2048, 0, 4095);
+    }
+
+    private static void aFormerNameIsNotMeantThoughOthersTookNamesSince() {
+        ChatThreads x = new ChatThreads();
+        x.takes(4, 2, 50);
+        x.takes(5, 1, 50);
+        x.takes(4, 3, 50);
+        x.line(50, 0, 4, 0);
+        x.line(50, 0, 14, 0);
+        dueEach(x, (y, n) -> y.lineOf(n, 9), 0, 48);
     }
 
     private static void aLineSpeaksToNobodyWhoHasNoName() {

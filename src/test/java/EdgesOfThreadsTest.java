@@ -322,6 +322,21 @@ public final class EdgesOfThreadsTest extends Checks {
         due(x.threadOf(0, 1), 4095);
     }
 
+    /** The first line that was added is the last one in order here. */
+    private static void lineZeroAnswersAndJoinsAsOthersDo() {
+        ChatThreads x = named();
+        x.line(30, 3, 3, 0);
+        x.line(0, 0, 0, 0);
+        x.line(0, 1, 0, 0);
+        dueEach(x, (y, what) -> y.lineOf(0, what), 30, 3, 3, 0, 2, 0, 2, 0, 1, 3);
+        due(x.count(4), 1);
+        due(x.answers(3, 1), 1);
+        due(x.partner(3), 1);
+        due(x.parting(1, 2), 40);
+        due(x.parting(0, 2), 40);
+        due(x.lineOf(2, 7), 1);
+    }
+
     /** "numbered from 0 in the order of their first lines" */
     private static void threadsAreNumberedByTheirFirstLinesInOrder() {
         ChatThreads x = new ChatThreads();
@@ -391,6 +406,15 @@ public final class EdgesOfThreadsTest extends Checks {
         ChatThreads x = meeting();
         due(x.threadOf(0, 0), 4);
         due(x.threadOf(0, 6), 2);
+    }
+
+    private static void theLongestRowIsOneOfTheThread() {
+        ChatThreads x = fourLines();
+        x.line(4, 5, 0, 0);
+        x.correct(1, 2, 1);
+        x.correct(1, 4, 2);
+        x.correct(1, 3, 0);
+        dueEach(x, (y, thread) -> y.threadOf(thread, 6), 2, 3, INVALID);
     }
 
     private static void lineInIsOfNumbersOfThreads() {
@@ -630,6 +654,23 @@ public final class EdgesOfThreadsTest extends Checks {
         dueEach(x, (y, line) -> y.threadsWithout(line), 2, 2, 2, 3);
         x.withdraw(0);
         dueEach(x, (y, line) -> y.threadsWithout(line), 2, 3, 2, 3);
+    }
+
+    /** Line 2 speaks to the writer of line 0, who had the name then; line 1 comes too late for that. */
+    private static void whatIfGoesByTheNamesAtTheirTimes() {
+        ChatThreads x = new ChatThreads();
+        x.takes(0, 5, 10);
+        x.takes(0, 6, 20);
+        x.takes(1, 5, 20);
+        x.line(15, 0, 0, 0);
+        x.line(25, 2, 32, 0);
+        x.line(15, 3, 32, 0);
+        due(x.count(2), 2);
+        due(x.threadsWith(7, 0), 2);
+        due(x.threadsWithout(1), 1);
+        due(x.threadsWithout(2), 2);
+        due(x.parting(0, 2), 41);
+        due(x.parting(0, 1), 1);
     }
 
     // ---- parting
