@@ -706,11 +706,15 @@ public final class EdgesOfThreadsTest extends Checks {
     }
 
     private static void linesOfAScoreBelow0ArePartedWithTheLeastThreshold() {
-        ChatThreads x = scored(0, 0);
-        x.set(6, 29);
-        due(x.score(1, 0), 99999);
-        due(x.parting(0, 1), 0);
-        due(x.parting(1, 0), 0);
+        int[] fadings = {29, 14, 1};
+        int[] below = {1, 2, 29};
+        for (int i = 0; i < fadings.length; i++) {
+            ChatThreads x = scored(0, 0);
+            x.set(6, fadings[i]);
+            due(x.score(1, 0), 100000 - below[i]);
+            due(x.parting(0, 1), 0);
+            due(x.parting(1, 0), 0);
+        }
     }
 
     private static void linesOfAScoreOf0ArePartedWith1() {
